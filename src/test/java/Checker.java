@@ -26,11 +26,14 @@ final class Checker {
         same(call, outcome(made), "throws " + due.getSimpleName());
     }
 
+    /** An exception that a library method throws is told apart: the program has to look before it calls. */
     static Object outcome(Call call) {
         try {
             return call.run();
         } catch (RuntimeException e) {
-            return "throws " + e.getClass().getSimpleName();
+            StackTraceElement[] frames = e.getStackTrace();
+            boolean library = frames.length > 0 && frames[0].getClassName().matches("(java|jdk)\\..*");
+            return "throws " + e.getClass().getSimpleName() + (library ? " in the library" : "");
         }
     }
 

@@ -146,6 +146,10 @@ public final class PromiseTest {
         CHECK.same("none may be", put(x, 5, 0, 9, "5:1"), -1);
         CHECK.same("none is", put(x, 5, 0, 9, "4:1"), 6);
         CHECK.same("lines of an older law stay", x.look(5, 2), 9);
+        x.ends(3, 0, 1, 1);
+        CHECK.same("role 0: none", put(x, 3, 0, 9, "1:1"), -1);
+        CHECK.same("role 0: two", put(x, 3, 0, 9, "0:1 0:2"), -1);
+        CHECK.same("role 0: one", put(x, 3, 0, 9, "0:1 1:2"), 7);
     }
 
     private static Object law(LineStore x, int kind, int role, int least, int most) {
@@ -204,6 +208,13 @@ public final class PromiseTest {
         x.strike(2, 0);
         CHECK.same("a line that was struck counts no more", put(x, 2, 0, 20, "3:7"), 10);
         CHECK.same("the second end is looked at, too", put(x, 2, 0, 20, "3:8 3:7"), -3);
+        x.alone(1, 0, 1);
+        CHECK.same("100 to 200", put(x, 1, 100, 200, "0:1"), 11);
+        CHECK.same("begun before and still in force", put(x, 1, 150, 300, "0:1"), -3);
+        CHECK.same("within it", put(x, 1, 150, 160, "0:1"), -3);
+        CHECK.same("around it", put(x, 1, 50, 300, "0:1"), -3);
+        CHECK.same("up to it", put(x, 1, 50, 99, "0:1"), 12);
+        CHECK.same("behind it", put(x, 1, 201, 300, "0:1"), 13);
     }
 
     private static void holds() {
@@ -366,6 +377,20 @@ public final class PromiseTest {
         CHECK.same("held by what begins later", x.strike(3, 5), 0);
         CHECK.same("struck on its first day", x.strike(4, 10), 1);
         CHECK.same("what is never in force holds nothing", x.strike(3, 5), 1);
+        put(x, 0, 0, 20, "0:1");
+        put(x, 1, 10, 10, "0:L5");
+        CHECK.same("held by one day", x.strike(5, 10), 0);
+        CHECK.same("not behind it", x.strike(5, 11), 1);
+        LineStore y = new LineStore();
+        y.holds(0, false);
+        put(y, 0, 0, 20, "0:1");
+        for (int line = 1; line < 120; line++) {
+            put(y, 0, 0, 20, "0:L" + (line - 1));
+        }
+        CHECK.same("a chain of all lines", y.strike(0, 20), 120);
+        CHECK.same("the last of them", y.look(119, 2), 19);
+        CHECK.same("its upper half", y.strike(60, 7), 60);
+        CHECK.same("the lower half stands", y.look(59, 2), 19);
     }
 
     private static void strikeAllOrNothing() {
@@ -541,14 +566,14 @@ public final class PromiseTest {
             "k0(r0 0", "k0(r0d", "k0(r0ab", "k0(r0k", "k0(r0r", "k0(r0t", "k0(r0t40", "k0(r0t39", "k0(r0t039",
             "k0(r0t 4 0", "k0(r0tt4", "k0(r0a", "k0(r0aB)", "k0(r0a b", "k0(r0a,", "k0(r0a,,", "k0(r0a)", "k0(r0a) ",
             "k0(r0a))", "k0(r0a),", "k0(r0a), ", "k0(r0a),,", "k0(r0a)k0(r0a)", "k0(r0a) not", "k0(r0a),r0",
-            "\tk0(r0a)", "k0\n(r0a)", "k0(r0a)\0", "k0(r0a)\u00e9", "k0(r0a).", "k0(r-1a)", "k0(r0t99999999999"};
+            "k0(r0z", "z0", "not5", "k0(r0a)z", "\tk0(r0a)", "k0\n(r0a)", "k0(r0a)\0", "k0(r0a)\u00e9", "k0(r0a).", "k0(r-1a)", "k0(r0t99999999999"};
         int[] due = {0, 3, 1, 2, 0, 0, 0, 3, 4, 0, 4, 0, 0, 0,
             2, 1, 2, 3, 1, 1, 1, 0, 2, 1, 3, 3, 2, 3, 3,
             4, 4, 6, 4, 3, 3, 3, 3, 5, 5, 5,
             6, 5, 5, 5, 5, 6, 6, 8, 6,
             9, 5, 6, 6, 7, 7, 7, -1, -1,
             7, 8, 9, 8, 7, 8, 8,
-            0, 2, 7, 7, 7, 4, 6};
+            5, 0, 3, 7, 0, 2, 7, 7, 7, 4, 6};
         CHECK.same("as many texts as faults", texts.length, due.length);
         for (int i = 0; i < texts.length && i < due.length; i++) {
             CHECK.same("fault of '" + texts[i] + "'", Texts.fault(x, texts[i]), due[i]);
@@ -722,6 +747,8 @@ public final class PromiseTest {
         put(x, 2, 5, 9, "0:1 0:4 0:3");
         put(x, 5, 0, 9, "0:L0 0:6");
         put(x, 5, 0, 9, "0:L0 0:7");
+        CHECK.same("to a thing of no line", x.ways(1, 0, 63, 5), -1);
+        CHECK.same("from a thing of no line", x.ways(0, 1, 63, 5), -1);
         CHECK.same("of one line", x.ways(1, 2, 1, 0), 1);
         CHECK.same("of two lines", x.ways(1, 3, 3, 0), 2);
         CHECK.same("back", x.ways(3, 1, 3, 0), 2);
