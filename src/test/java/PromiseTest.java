@@ -44,6 +44,7 @@ public final class PromiseTest {
         ways();
         degree();
         count();
+        allThatFits();
         CHECK.finish();
     }
 
@@ -827,5 +828,31 @@ public final class PromiseTest {
         x.part();
         CHECK.same("count(2) after part", x.count(2), 2);
         CHECK.same("count(3) after part", x.count(3), 38);
+    }
+
+    /** As many lines, ends, atoms and parts as there may be at once: no row of the program is too short. */
+    private static void allThatFits() {
+        CHECK.topic("all that fits");
+        LineStore x = new LineStore();
+        for (int line = 0; line < 119; line++) {
+            put(x, 5, 0, 1000, "5:39 5:38 4:" + (line % 40));
+        }
+        x.alone(5, 5, 100);
+        CHECK.same("119 lines at once are more than 100", put(x, 5, 0, 1000, "5:39"), -3);
+        x.alone(5, 5, 0);
+        CHECK.same("the last line", put(x, 5, 0, 1000, "5:39 5:38 5:37 4:1 4:2 4:39"), 119);
+        String atom = "k5(r5a,r5b,r4c,r5t39)";
+        CHECK.same("six atoms", Texts.ask(x, (atom + ",").repeat(5) + atom), 6);
+        CHECK.same("38 and 39 twice with all, 37 with three", x.answers(1000), 4 * 40 + 5 * 3);
+        CHECK.same("the last a", x.answer(0, 174, 0), 39);
+        CHECK.same("the last b", x.answer(0, 174, 1), 39);
+        CHECK.same("the last c", x.answer(0, 174, 2), 39);
+        CHECK.same("no more", x.answer(0, 175, 2), -1);
+        CHECK.same("five with not", Texts.ask(x, atom + (",not k5(r4c,r5a,r5b,r5t37)").repeat(5)), 6);
+        CHECK.same("without the last line's", x.answers(1000), 4 * 37);
+        CHECK.same("degree", x.degree(39, 5, 5, 500), 120);
+        CHECK.same("ways", x.ways(37, 0, 32, 500), 2);
+        CHECK.same("strike of the last", x.strike(119, 500), 1);
+        CHECK.same("degree then", x.degree(39, 5, 5, 500), 119);
     }
 }
