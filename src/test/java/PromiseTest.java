@@ -48,16 +48,6 @@ public final class PromiseTest {
         CHECK.finish();
     }
 
-    /** Ends in words such as "0:5 1:7 2:L3": a ROLE, and a THING or a LINE. */
-    private static int put(LineStore x, int kind, int from, int to, String ends) {
-        for (String end : ends.split(" ")) {
-            String[] parts = end.split(":");
-            boolean line = parts[1].startsWith("L");
-            x.draft(Integer.parseInt(parts[0]), line, Integer.parseInt(line ? parts[1].substring(1) : parts[1]));
-        }
-        return x.put(kind, from, to);
-    }
-
     private static void newObject() {
         CHECK.topic("1 a new object");
         LineStore x = new LineStore();
@@ -74,8 +64,8 @@ public final class PromiseTest {
             CHECK.same("holds(" + kind + ", true)", x.holds(kind, true), false);
             for (int role = 0; role < 6; role++) {
                 String six = (role + ":1 ").repeat(6).trim();
-                CHECK.same("a line of six ends", put(x, kind, 0, 1000, six), 2 * (kind * 6 + role));
-                CHECK.same("a second one", put(x, kind, 0, 1000, six), 2 * (kind * 6 + role) + 1);
+                CHECK.same("a line of six ends", Steps.put(x, kind, 0, 1000, six), 2 * (kind * 6 + role));
+                CHECK.same("a second one", Steps.put(x, kind, 0, 1000, six), 2 * (kind * 6 + role) + 1);
             }
         }
         LineStore y = new LineStore();
@@ -125,97 +115,87 @@ public final class PromiseTest {
         CHECK.topic("4 ends");
         LineStore x = new LineStore();
         for (int wrong : NOT_SIX) {
-            CHECK.fails("ends of kind " + wrong, BOUNDS, () -> law(x, wrong, 0, 7, 0));
-            CHECK.fails("ends of role " + wrong, BOUNDS, () -> law(x, 0, wrong, 7, 0));
+            CHECK.fails("ends of kind " + wrong, BOUNDS, () -> Steps.ends(x, wrong, 0, 7, 0));
+            CHECK.fails("ends of role " + wrong, BOUNDS, () -> Steps.ends(x, 0, wrong, 7, 0));
         }
-        CHECK.fails("ends(0, 0, -1, 3)", ARGUMENT, () -> law(x, 0, 0, -1, 3));
-        CHECK.fails("ends(0, 0, 3, 2)", ARGUMENT, () -> law(x, 0, 0, 3, 2));
-        CHECK.fails("ends(0, 0, 3, 7)", ARGUMENT, () -> law(x, 0, 0, 3, 7));
-        CHECK.fails("ends(0, 0, 7, 7)", ARGUMENT, () -> law(x, 0, 0, 7, 7));
-        CHECK.same("a law that was thrown at changed nothing", put(x, 0, 0, 9, "0:1"), 0);
+        CHECK.fails("ends(0, 0, -1, 3)", ARGUMENT, () -> Steps.ends(x, 0, 0, -1, 3));
+        CHECK.fails("ends(0, 0, 3, 2)", ARGUMENT, () -> Steps.ends(x, 0, 0, 3, 2));
+        CHECK.fails("ends(0, 0, 3, 7)", ARGUMENT, () -> Steps.ends(x, 0, 0, 3, 7));
+        CHECK.fails("ends(0, 0, 7, 7)", ARGUMENT, () -> Steps.ends(x, 0, 0, 7, 7));
+        CHECK.same("a law that was thrown at changed nothing", Steps.put(x, 0, 0, 9, "0:1"), 0);
         x.ends(5, 5, 2, 3);
-        CHECK.same("one end", put(x, 5, 0, 9, "5:1"), -1);
-        CHECK.same("two ends", put(x, 5, 0, 9, "5:1 5:1"), 1);
-        CHECK.same("three ends, one a line", put(x, 5, 0, 9, "5:1 5:2 5:L0"), 2);
-        CHECK.same("four ends", put(x, 5, 0, 9, "5:1 5:2 5:3 5:4"), -1);
-        CHECK.same("no ends in the role", put(x, 5, 0, 9, "0:1"), -1);
-        CHECK.same("another kind", put(x, 4, 0, 9, "5:1"), 3);
-        CHECK.same("other roles beside", put(x, 5, 0, 9, "5:1 0:3 5:1"), 4);
+        CHECK.same("one end", Steps.put(x, 5, 0, 9, "5:1"), -1);
+        CHECK.same("two ends", Steps.put(x, 5, 0, 9, "5:1 5:1"), 1);
+        CHECK.same("three ends, one a line", Steps.put(x, 5, 0, 9, "5:1 5:2 5:L0"), 2);
+        CHECK.same("four ends", Steps.put(x, 5, 0, 9, "5:1 5:2 5:3 5:4"), -1);
+        CHECK.same("no ends in the role", Steps.put(x, 5, 0, 9, "0:1"), -1);
+        CHECK.same("another kind", Steps.put(x, 4, 0, 9, "5:1"), 3);
+        CHECK.same("other roles beside", Steps.put(x, 5, 0, 9, "5:1 0:3 5:1"), 4);
         x.ends(5, 5, 6, 6);
-        CHECK.same("six of six", put(x, 5, 0, 9, "5:1 5:1 5:1 5:1 5:1 5:1"), 5);
+        CHECK.same("six of six", Steps.put(x, 5, 0, 9, "5:1 5:1 5:1 5:1 5:1 5:1"), 5);
         x.ends(5, 5, 0, 0);
-        CHECK.same("none may be", put(x, 5, 0, 9, "5:1"), -1);
-        CHECK.same("none is", put(x, 5, 0, 9, "4:1"), 6);
+        CHECK.same("none may be", Steps.put(x, 5, 0, 9, "5:1"), -1);
+        CHECK.same("none is", Steps.put(x, 5, 0, 9, "4:1"), 6);
         CHECK.same("lines of an older law stay", x.look(5, 2), 9);
         x.ends(3, 0, 1, 1);
-        CHECK.same("role 0: none", put(x, 3, 0, 9, "1:1"), -1);
-        CHECK.same("role 0: two", put(x, 3, 0, 9, "0:1 0:2"), -1);
-        CHECK.same("role 0: one", put(x, 3, 0, 9, "0:1 1:2"), 7);
-    }
-
-    private static Object law(LineStore x, int kind, int role, int least, int most) {
-        x.ends(kind, role, least, most);
-        return "made";
+        CHECK.same("role 0: none", Steps.put(x, 3, 0, 9, "1:1"), -1);
+        CHECK.same("role 0: two", Steps.put(x, 3, 0, 9, "0:1 0:2"), -1);
+        CHECK.same("role 0: one", Steps.put(x, 3, 0, 9, "0:1 1:2"), 7);
     }
 
     private static void alone() {
         CHECK.topic("5 alone");
         LineStore x = new LineStore();
         for (int wrong : NOT_SIX) {
-            CHECK.fails("alone of kind " + wrong, BOUNDS, () -> law(x, wrong, 0, -1));
-            CHECK.fails("alone of role " + wrong, BOUNDS, () -> law(x, 0, wrong, 101));
+            CHECK.fails("alone of kind " + wrong, BOUNDS, () -> Steps.alone(x, wrong, 0, -1));
+            CHECK.fails("alone of role " + wrong, BOUNDS, () -> Steps.alone(x, 0, wrong, 101));
         }
-        CHECK.fails("alone(0, 0, -1)", ARGUMENT, () -> law(x, 0, 0, -1));
-        CHECK.fails("alone(0, 0, 101)", ARGUMENT, () -> law(x, 0, 0, 101));
-        CHECK.same("alone(0, 0, 100)", Checker.outcome(() -> law(x, 0, 0, 100)), "made");
+        CHECK.fails("alone(0, 0, -1)", ARGUMENT, () -> Steps.alone(x, 0, 0, -1));
+        CHECK.fails("alone(0, 0, 101)", ARGUMENT, () -> Steps.alone(x, 0, 0, 101));
+        CHECK.same("alone(0, 0, 100)", Checker.outcome(() -> Steps.alone(x, 0, 0, 100)), "made");
         for (int i = 0; i < 100; i++) {
-            CHECK.same("line " + i + " of 100", put(x, 0, 5, 6, "0:1"), i);
+            CHECK.same("line " + i + " of 100", Steps.put(x, 0, 5, 6, "0:1"), i);
         }
-        CHECK.same("line 101", put(x, 0, 5, 6, "0:1"), -3);
+        CHECK.same("line 101", Steps.put(x, 0, 5, 6, "0:1"), -3);
         x.alone(0, 0, 0);
-        CHECK.same("0 is any", put(x, 0, 5, 6, "0:1"), 100);
+        CHECK.same("0 is any", Steps.put(x, 0, 5, 6, "0:1"), 100);
         x.alone(0, 0, 2);
-        CHECK.same("by the new law", put(x, 0, 5, 6, "0:1"), -3);
-        CHECK.same("another thing", put(x, 0, 5, 6, "0:2"), 101);
-        CHECK.same("another role", put(x, 0, 5, 6, "1:1"), 102);
-        CHECK.same("another kind", put(x, 1, 5, 6, "0:1"), 103);
-    }
-
-    private static Object law(LineStore x, int kind, int role, int most) {
-        x.alone(kind, role, most);
-        return "made";
+        CHECK.same("by the new law", Steps.put(x, 0, 5, 6, "0:1"), -3);
+        CHECK.same("another thing", Steps.put(x, 0, 5, 6, "0:2"), 101);
+        CHECK.same("another role", Steps.put(x, 0, 5, 6, "1:1"), 102);
+        CHECK.same("another kind", Steps.put(x, 1, 5, 6, "0:1"), 103);
     }
 
     private static void aloneByDaysAndOnes() {
         CHECK.topic("5 alone, by days and by what is one");
         LineStore x = new LineStore();
         x.alone(2, 3, 2);
-        CHECK.same("0 to 4", put(x, 2, 0, 4, "3:7"), 0);
-        CHECK.same("6 to 9", put(x, 2, 6, 9, "3:7"), 1);
-        CHECK.same("0 to 20, never three at once", put(x, 2, 0, 20, "3:7"), 2);
-        CHECK.same("day 5 alone", put(x, 2, 5, 5, "3:7"), 3);
-        CHECK.same("day 5 again", put(x, 2, 5, 5, "3:7"), -3);
-        CHECK.same("4 to 6", put(x, 2, 4, 6, "3:7"), -3);
-        CHECK.same("9 to 30", put(x, 2, 9, 30, "3:7"), -3);
-        CHECK.same("10 to 30", put(x, 2, 10, 30, "3:7"), 4);
-        CHECK.same("twice in one line counts once", put(x, 2, 21, 30, "3:7 3:7"), 5);
-        CHECK.same("a line is no thing", put(x, 2, 0, 4, "3:L0"), 6);
+        CHECK.same("0 to 4", Steps.put(x, 2, 0, 4, "3:7"), 0);
+        CHECK.same("6 to 9", Steps.put(x, 2, 6, 9, "3:7"), 1);
+        CHECK.same("0 to 20, never three at once", Steps.put(x, 2, 0, 20, "3:7"), 2);
+        CHECK.same("day 5 alone", Steps.put(x, 2, 5, 5, "3:7"), 3);
+        CHECK.same("day 5 again", Steps.put(x, 2, 5, 5, "3:7"), -3);
+        CHECK.same("4 to 6", Steps.put(x, 2, 4, 6, "3:7"), -3);
+        CHECK.same("9 to 30", Steps.put(x, 2, 9, 30, "3:7"), -3);
+        CHECK.same("10 to 30", Steps.put(x, 2, 10, 30, "3:7"), 4);
+        CHECK.same("twice in one line counts once", Steps.put(x, 2, 21, 30, "3:7 3:7"), 5);
+        CHECK.same("a line is no thing", Steps.put(x, 2, 0, 4, "3:L0"), 6);
         CHECK.same("one(7, 30)", x.one(7, 30), true);
-        CHECK.same("what is one with it", put(x, 2, 0, 0, "3:30"), -3);
-        CHECK.same("in another role", put(x, 2, 0, 0, "2:30"), 7);
+        CHECK.same("what is one with it", Steps.put(x, 2, 0, 0, "3:30"), -3);
+        CHECK.same("in another role", Steps.put(x, 2, 0, 0, "2:30"), 7);
         x.part();
-        CHECK.same("what is one no more", put(x, 2, 0, 0, "3:30"), 8);
-        CHECK.same("both, not one", put(x, 2, 0, 0, "3:30"), 9);
+        CHECK.same("what is one no more", Steps.put(x, 2, 0, 0, "3:30"), 8);
+        CHECK.same("both, not one", Steps.put(x, 2, 0, 0, "3:30"), 9);
         x.strike(2, 0);
-        CHECK.same("a line that was struck counts no more", put(x, 2, 0, 20, "3:7"), 10);
-        CHECK.same("the second end is looked at, too", put(x, 2, 0, 20, "3:8 3:7"), -3);
+        CHECK.same("a line that was struck counts no more", Steps.put(x, 2, 0, 20, "3:7"), 10);
+        CHECK.same("the second end is looked at, too", Steps.put(x, 2, 0, 20, "3:8 3:7"), -3);
         x.alone(1, 0, 1);
-        CHECK.same("100 to 200", put(x, 1, 100, 200, "0:1"), 11);
-        CHECK.same("begun before and still in force", put(x, 1, 150, 300, "0:1"), -3);
-        CHECK.same("within it", put(x, 1, 150, 160, "0:1"), -3);
-        CHECK.same("around it", put(x, 1, 50, 300, "0:1"), -3);
-        CHECK.same("up to it", put(x, 1, 50, 99, "0:1"), 12);
-        CHECK.same("behind it", put(x, 1, 201, 300, "0:1"), 13);
+        CHECK.same("100 to 200", Steps.put(x, 1, 100, 200, "0:1"), 11);
+        CHECK.same("begun before and still in force", Steps.put(x, 1, 150, 300, "0:1"), -3);
+        CHECK.same("within it", Steps.put(x, 1, 150, 160, "0:1"), -3);
+        CHECK.same("around it", Steps.put(x, 1, 50, 300, "0:1"), -3);
+        CHECK.same("up to it", Steps.put(x, 1, 50, 99, "0:1"), 12);
+        CHECK.same("behind it", Steps.put(x, 1, 201, 300, "0:1"), 13);
     }
 
     private static void holds() {
@@ -229,9 +209,9 @@ public final class PromiseTest {
         CHECK.same("holds(5, false) again", x.holds(5, false), false);
         CHECK.same("holds(4, false)", x.holds(4, false), true);
         CHECK.same("holds(4, true)", x.holds(4, true), true);
-        put(x, 5, 0, 9, "0:1");
-        put(x, 4, 0, 9, "0:L0");
-        put(x, 5, 0, 9, "0:L1");
+        Steps.put(x, 5, 0, 9, "0:1");
+        Steps.put(x, 4, 0, 9, "0:L0");
+        Steps.put(x, 5, 0, 9, "0:L1");
         CHECK.same("line 1 is held by line 2", x.strike(0, 5), 0);
         CHECK.same("and so by itself", x.strike(1, 5), 0);
         x.holds(4, false);
@@ -263,7 +243,7 @@ public final class PromiseTest {
         CHECK.fails("a 7th of a wrong thing", BOUNDS, () -> x.draft(0, false, 40));
         CHECK.same("count(1)", x.count(1), 6);
         CHECK.same("the 7th did not come", x.look(x.put(1, 0, 0), 3), 6);
-        put(x, 1, 0, 0, "0:1");
+        Steps.put(x, 1, 0, 0, "0:1");
         x.strike(2, 0);
         CHECK.same("a line that was struck is there", x.draft(0, true, 2), 1);
     }
@@ -284,9 +264,9 @@ public final class PromiseTest {
         CHECK.same("put(0, 0, 1000)", x.put(0, 0, 1000), 0);
         CHECK.same("the draft is used", x.count(1), 0);
         CHECK.fails("put again", ARGUMENT, () -> x.put(0, 0, 1000));
-        CHECK.same("put(5, 1000, 1000)", put(x, 5, 1000, 1000, "0:0"), 1);
+        CHECK.same("put(5, 1000, 1000)", Steps.put(x, 5, 1000, 1000, "0:0"), 1);
         for (int i = 2; i < 120; i++) {
-            CHECK.same("line " + i, put(x, 1, i, i, "0:0"), i);
+            CHECK.same("line " + i, Steps.put(x, 1, i, i, "0:0"), i);
         }
         CHECK.fails("wrong days ahead of too many", ARGUMENT, () -> {
             x.draft(0, false, 0);
@@ -303,41 +283,41 @@ public final class PromiseTest {
     private static void refusalsInOrder() {
         CHECK.topic("8 put, refused");
         LineStore x = new LineStore();
-        put(x, 0, 5, 9, "0:1");
+        Steps.put(x, 0, 5, 9, "0:1");
         x.alone(0, 0, 1);
         x.ends(0, 1, 0, 1);
-        CHECK.same("all three", put(x, 0, 4, 9, "0:1 1:L0 1:2"), -1);
-        CHECK.same("the second and the third", put(x, 0, 4, 9, "0:1 1:L0"), -2);
-        CHECK.same("the third", put(x, 0, 5, 9, "0:1 1:L0"), -3);
+        CHECK.same("all three", Steps.put(x, 0, 4, 9, "0:1 1:L0 1:2"), -1);
+        CHECK.same("the second and the third", Steps.put(x, 0, 4, 9, "0:1 1:L0"), -2);
+        CHECK.same("the third", Steps.put(x, 0, 5, 9, "0:1 1:L0"), -3);
         CHECK.same("none is left of the draft", x.count(1), 0);
         CHECK.same("no line came", x.count(0), 1);
-        CHECK.same("none of them", put(x, 0, 5, 9, "0:2 1:L0"), 1);
+        CHECK.same("none of them", Steps.put(x, 0, 5, 9, "0:2 1:L0"), 1);
     }
 
     private static void linesOnLines() {
         CHECK.topic("8 put, on lines");
         LineStore x = new LineStore();
-        put(x, 0, 5, 9, "0:1");
-        CHECK.same("one day earlier", put(x, 0, 4, 9, "0:L0"), -2);
-        CHECK.same("one day later", put(x, 0, 5, 10, "0:L0"), -2);
-        CHECK.same("the same days", put(x, 0, 5, 9, "0:L0"), 1);
-        CHECK.same("one of its days", put(x, 0, 9, 9, "0:3 0:L0"), 2);
-        put(x, 0, 0, 3, "0:1");
-        CHECK.same("the second end is looked at, too", put(x, 0, 5, 6, "0:L0 0:L3"), -2);
+        Steps.put(x, 0, 5, 9, "0:1");
+        CHECK.same("one day earlier", Steps.put(x, 0, 4, 9, "0:L0"), -2);
+        CHECK.same("one day later", Steps.put(x, 0, 5, 10, "0:L0"), -2);
+        CHECK.same("the same days", Steps.put(x, 0, 5, 9, "0:L0"), 1);
+        CHECK.same("one of its days", Steps.put(x, 0, 9, 9, "0:3 0:L0"), 2);
+        Steps.put(x, 0, 0, 3, "0:1");
+        CHECK.same("the second end is looked at, too", Steps.put(x, 0, 5, 6, "0:L0 0:L3"), -2);
         x.draft(0, true, 3);
         x.strike(3, 2);
         CHECK.same("struck behind the draft", x.put(0, 1, 2), -2);
-        CHECK.same("up to the day before", put(x, 0, 1, 1, "0:L3"), 4);
+        CHECK.same("up to the day before", Steps.put(x, 0, 1, 1, "0:L3"), 4);
         x.strike(4, 1);
-        CHECK.same("never in force", put(x, 0, 1, 1, "0:L4"), -2);
-        CHECK.same("never in force, the day before", put(x, 0, 0, 0, "0:L4"), -2);
+        CHECK.same("never in force", Steps.put(x, 0, 1, 1, "0:L4"), -2);
+        CHECK.same("never in force, the day before", Steps.put(x, 0, 0, 0, "0:L4"), -2);
     }
 
     private static void strike() {
         CHECK.topic("9 strike");
         LineStore x = new LineStore();
         CHECK.fails("strike of line 0 without one", BOUNDS, () -> x.strike(0, 0));
-        put(x, 0, 5, 9, "0:1");
+        Steps.put(x, 0, 5, 9, "0:1");
         CHECK.fails("strike of line -1", BOUNDS, () -> x.strike(-1, 5));
         CHECK.fails("strike of line 1", BOUNDS, () -> x.strike(1, 5));
         CHECK.same("the day before its first", x.strike(0, 4), 0);
@@ -353,8 +333,8 @@ public final class PromiseTest {
         CHECK.same("no day is its own", x.strike(0, 5), 0);
         CHECK.same("nor the one before", x.strike(0, 4), 0);
         CHECK.same("it keeps its number", x.count(0), 1);
-        put(x, 0, 3, 9, "0:1");
-        put(x, 0, 3, 5, "0:L1");
+        Steps.put(x, 0, 3, 9, "0:1");
+        Steps.put(x, 0, 3, 5, "0:L1");
         CHECK.same("held on day 5", x.strike(1, 5), 0);
         CHECK.same("not held on day 6", x.strike(1, 6), 1);
         CHECK.same("what hung is not struck", x.look(2, 2), 5);
@@ -364,29 +344,29 @@ public final class PromiseTest {
         CHECK.topic("9 strike, what hangs and begins later or never");
         LineStore x = new LineStore();
         x.holds(0, false);
-        put(x, 0, 0, 20, "0:1");
-        put(x, 1, 10, 20, "0:L0 1:L0");
-        put(x, 2, 0, 3, "0:L0");
+        Steps.put(x, 0, 0, 20, "0:1");
+        Steps.put(x, 1, 10, 20, "0:L0 1:L0");
+        Steps.put(x, 2, 0, 3, "0:L0");
         CHECK.same("struck with what begins later", x.strike(0, 5), 2);
         CHECK.same("on its own first day", x.look(1, 2), 9);
         CHECK.same("the line itself", x.look(0, 2), 4);
         CHECK.same("what was over before", x.look(2, 2), 3);
         CHECK.same("what is never in force is struck no more", x.strike(0, 4), 1);
         x.holds(0, true);
-        put(x, 0, 0, 20, "0:1");
-        put(x, 1, 10, 20, "0:L3");
+        Steps.put(x, 0, 0, 20, "0:1");
+        Steps.put(x, 1, 10, 20, "0:L3");
         CHECK.same("held by what begins later", x.strike(3, 5), 0);
         CHECK.same("struck on its first day", x.strike(4, 10), 1);
         CHECK.same("what is never in force holds nothing", x.strike(3, 5), 1);
-        put(x, 0, 0, 20, "0:1");
-        put(x, 1, 10, 10, "0:L5");
+        Steps.put(x, 0, 0, 20, "0:1");
+        Steps.put(x, 1, 10, 10, "0:L5");
         CHECK.same("held by one day", x.strike(5, 10), 0);
         CHECK.same("not behind it", x.strike(5, 11), 1);
         LineStore y = new LineStore();
         y.holds(0, false);
-        put(y, 0, 0, 20, "0:1");
+        Steps.put(y, 0, 0, 20, "0:1");
         for (int line = 1; line < 120; line++) {
-            put(y, 0, 0, 20, "0:L" + (line - 1));
+            Steps.put(y, 0, 0, 20, "0:L" + (line - 1));
         }
         CHECK.same("a chain of all lines", y.strike(0, 20), 120);
         CHECK.same("the last of them", y.look(119, 2), 19);
@@ -398,10 +378,10 @@ public final class PromiseTest {
         CHECK.topic("9 strike, all or nothing");
         LineStore x = new LineStore();
         x.holds(0, false);
-        put(x, 0, 0, 9, "0:1");
-        put(x, 0, 0, 9, "0:L0");
-        put(x, 1, 0, 9, "0:L0");
-        put(x, 2, 0, 9, "0:L1 1:L2");
+        Steps.put(x, 0, 0, 9, "0:1");
+        Steps.put(x, 0, 0, 9, "0:L0");
+        Steps.put(x, 1, 0, 9, "0:L0");
+        Steps.put(x, 2, 0, 9, "0:L1 1:L2");
         CHECK.same("one of four is held", x.strike(0, 5), 0);
         for (int line = 0; line < 4; line++) {
             CHECK.same("line " + line + " is as it was", x.look(line, 2), 9);
@@ -484,7 +464,7 @@ public final class PromiseTest {
         CHECK.topic("13 look");
         LineStore x = new LineStore();
         CHECK.fails("look(0, 0) without a line", BOUNDS, () -> x.look(0, 0));
-        put(x, 4, 10, 20, "0:1 1:2 2:3");
+        Steps.put(x, 4, 10, 20, "0:1 1:2 2:3");
         CHECK.fails("look(-1, 9)", BOUNDS, () -> x.look(-1, 9));
         CHECK.fails("look(1, 9)", BOUNDS, () -> x.look(1, 9));
         CHECK.fails("look(0, 5)", ELEMENT, () -> x.look(0, 5));
@@ -494,14 +474,14 @@ public final class PromiseTest {
         CHECK.same("last day", x.look(0, 2), 20);
         CHECK.same("ends", x.look(0, 3), 3);
         CHECK.same("what hangs on it", x.look(0, 4), 0);
-        put(x, 3, 10, 11, "0:L0 1:L0");
-        put(x, 3, 10, 11, "0:L1");
-        put(x, 3, 10, 11, "5:L0");
+        Steps.put(x, 3, 10, 11, "0:L0 1:L0");
+        Steps.put(x, 3, 10, 11, "0:L1");
+        Steps.put(x, 3, 10, 11, "5:L0");
         CHECK.same("two hang on it", x.look(0, 4), 2);
         x.strike(3, 10);
         CHECK.same("one of them never in force", x.look(0, 4), 2);
         CHECK.same("never", x.look(3, 2), 9);
-        put(x, 0, 0, 5, "0:1");
+        Steps.put(x, 0, 0, 5, "0:1");
         x.strike(4, 0);
         CHECK.same("never, below all days", x.look(4, 2), -1);
     }
@@ -510,8 +490,8 @@ public final class PromiseTest {
         CHECK.topic("14 ended");
         LineStore x = new LineStore();
         CHECK.fails("ended(0, 0, 0) without a line", BOUNDS, () -> x.ended(0, 0, 0));
-        put(x, 0, 0, 9, "5:39");
-        put(x, 0, 0, 9, "4:L0 3:7 4:7");
+        Steps.put(x, 0, 0, 9, "5:39");
+        Steps.put(x, 0, 0, 9, "4:L0 3:7 4:7");
         CHECK.fails("ended(2, 9, 9)", BOUNDS, () -> x.ended(2, 9, 9));
         CHECK.fails("ended(-1, 9, 9)", BOUNDS, () -> x.ended(-1, 9, 9));
         CHECK.fails("ended(1, 3, 0)", ELEMENT, () -> x.ended(1, 3, 0));
@@ -549,7 +529,7 @@ public final class PromiseTest {
         CHECK.same("with its variables", x.count(5), 1);
         CHECK.same("six atoms of four parts",
                 Texts.ask(x, ("k0(r0a,r1b,r2c,r3t4),".repeat(6)).substring(0, 125)), 6);
-        put(x, 0, 0, 9, "0:1 1:2 2:3 3:4");
+        Steps.put(x, 0, 0, 9, "0:1 1:2 2:3 3:4");
         CHECK.same("and its answer", x.answers(0), 1);
         Texts.feed(x, "k1(r1a,r1b,r1c");
         CHECK.fails("a wrong text that is nearly whole", ARGUMENT, () -> x.question());
@@ -617,10 +597,10 @@ public final class PromiseTest {
         CHECK.topic("17 answers");
         LineStore x = new LineStore();
         CHECK.same("ahead of any question", x.answers(0), 0);
-        put(x, 0, 5, 9, "0:1 0:2 1:3");
-        put(x, 0, 5, 9, "0:1 0:4 1:5");
-        put(x, 1, 5, 9, "0:3");
-        put(x, 0, 5, 9, "0:L0");
+        Steps.put(x, 0, 5, 9, "0:1 0:2 1:3");
+        Steps.put(x, 0, 5, 9, "0:1 0:4 1:5");
+        Steps.put(x, 1, 5, 9, "0:3");
+        Steps.put(x, 0, 5, 9, "0:L0");
         Texts.ask(x, "k0(r0a)");
         int[] days = {Integer.MIN_VALUE, -1, 4, 5, 9, 10, 1001, Integer.MAX_VALUE};
         int[] due = {0, 0, 0, 3, 3, 0, 0, 0};
@@ -644,7 +624,7 @@ public final class PromiseTest {
         CHECK.same("without variables, of two lines", x.answers(5), 0);
         LineStore y = new LineStore();
         for (int thing = 0; thing < 40; thing++) {
-            put(y, 0, 0, 0, "0:" + thing);
+            Steps.put(y, 0, 0, 0, "0:" + thing);
         }
         Texts.ask(y, "k0(r0a),k0(r0b),k0(r0c)");
         CHECK.same("all that there may be", y.answers(0), 64000);
@@ -658,9 +638,9 @@ public final class PromiseTest {
     private static void answersOfNot() {
         CHECK.topic("17 answers with not");
         LineStore x = new LineStore();
-        put(x, 0, 0, 9, "0:1 1:2");
-        put(x, 0, 0, 9, "0:3 1:4");
-        put(x, 1, 0, 4, "0:1 1:4");
+        Steps.put(x, 0, 0, 9, "0:1 1:2");
+        Steps.put(x, 0, 0, 9, "0:3 1:4");
+        Steps.put(x, 1, 0, 4, "0:1 1:4");
         Texts.ask(x, "k0(r0a),k0(r1b),not k0(r0a,r1b)");
         CHECK.same("not of one line", x.answers(0), 2);
         Texts.ask(x, "k0(r0a),k0(r1b),not k0(r0a,r1b),not k1(r0a,r1b)");
@@ -679,8 +659,8 @@ public final class PromiseTest {
     private static void answersOfOnes() {
         CHECK.topic("17 answers by what is one");
         LineStore x = new LineStore();
-        put(x, 0, 0, 9, "0:7 1:8");
-        put(x, 0, 0, 9, "0:9 1:5");
+        Steps.put(x, 0, 0, 9, "0:7 1:8");
+        Steps.put(x, 0, 0, 9, "0:9 1:5");
         Texts.ask(x, "k0(r0a,r1b)");
         x.one(8, 9);
         x.one(7, 9);
@@ -707,9 +687,9 @@ public final class PromiseTest {
         CHECK.topic("18 answer");
         LineStore x = new LineStore();
         CHECK.same("ahead of any question", x.answer(0, 0, 0), -1);
-        put(x, 0, 0, 9, "0:20 1:3");
-        put(x, 0, 0, 9, "0:2 1:30 1:4");
-        put(x, 0, 0, 9, "0:2 1:3");
+        Steps.put(x, 0, 0, 9, "0:20 1:3");
+        Steps.put(x, 0, 0, 9, "0:2 1:30 1:4");
+        Steps.put(x, 0, 0, 9, "0:2 1:3");
         Texts.ask(x, "k0(r1c,r0a)");
         int[][] due = {{2, 3}, {2, 4}, {2, 30}, {20, 3}};
         CHECK.same("answers(0)", x.answers(0), due.length);
@@ -743,11 +723,11 @@ public final class PromiseTest {
         }
         CHECK.same("to itself", x.ways(3, 3, 0, -5), 0);
         CHECK.same("without lines", x.ways(3, 4, 63, 0), -1);
-        put(x, 0, 0, 9, "0:1 1:2");
-        put(x, 1, 0, 9, "5:2 0:3 1:11");
-        put(x, 2, 5, 9, "0:1 0:4 0:3");
-        put(x, 5, 0, 9, "0:L0 0:6");
-        put(x, 5, 0, 9, "0:L0 0:7");
+        Steps.put(x, 0, 0, 9, "0:1 1:2");
+        Steps.put(x, 1, 0, 9, "5:2 0:3 1:11");
+        Steps.put(x, 2, 5, 9, "0:1 0:4 0:3");
+        Steps.put(x, 5, 0, 9, "0:L0 0:6");
+        Steps.put(x, 5, 0, 9, "0:L0 0:7");
         CHECK.same("to a thing of no line", x.ways(1, 0, 63, 5), -1);
         CHECK.same("from a thing of no line", x.ways(0, 1, 63, 5), -1);
         CHECK.same("of one line", x.ways(1, 2, 1, 0), 1);
@@ -768,7 +748,7 @@ public final class PromiseTest {
         CHECK.same("0 for what is one", x.ways(30, 6, 0, 0), 0);
         LineStore y = new LineStore();
         for (int thing = 39; thing > 0; thing--) {
-            put(y, thing % 6, 0, 0, "0:" + thing + " 1:" + (thing - 1));
+            Steps.put(y, thing % 6, 0, 0, "0:" + thing + " 1:" + (thing - 1));
         }
         CHECK.same("39 lines", y.ways(0, 39, 63, 0), 39);
         y.strike(20, 0);
@@ -785,10 +765,10 @@ public final class PromiseTest {
             CHECK.fails("degree of kind " + wrong, BOUNDS, () -> x.degree(0, wrong, 0, 0));
             CHECK.fails("degree of role " + wrong, BOUNDS, () -> x.degree(0, 0, wrong, 0));
         }
-        put(x, 0, 0, 9, "0:1 0:1 1:1");
-        put(x, 0, 5, 9, "0:1 0:L0");
-        put(x, 1, 0, 9, "0:1");
-        put(x, 0, 0, 9, "0:2");
+        Steps.put(x, 0, 0, 9, "0:1 0:1 1:1");
+        Steps.put(x, 0, 5, 9, "0:1 0:L0");
+        Steps.put(x, 1, 0, 9, "0:1");
+        Steps.put(x, 0, 0, 9, "0:2");
         CHECK.same("once a line", x.degree(1, 0, 0, 0), 1);
         CHECK.same("two lines", x.degree(1, 0, 0, 5), 2);
         CHECK.same("another role", x.degree(1, 0, 1, 5), 1);
@@ -810,8 +790,8 @@ public final class PromiseTest {
         CHECK.same("count(6)", x.count(6), -1);
         CHECK.same("count(-1)", x.count(-1), -1);
         CHECK.same("count(most)", x.count(Integer.MAX_VALUE), -1);
-        put(x, 0, 0, 9, "0:1 0:2");
-        put(x, 0, 0, 9, "0:1");
+        Steps.put(x, 0, 0, 9, "0:1 0:2");
+        Steps.put(x, 0, 0, 9, "0:1");
         x.strike(0, 0);
         x.draft(0, false, 1);
         x.draft(0, true, 1);
@@ -835,12 +815,12 @@ public final class PromiseTest {
         CHECK.topic("all that fits");
         LineStore x = new LineStore();
         for (int line = 0; line < 119; line++) {
-            put(x, 5, 0, 1000, "5:39 5:38 4:" + (line % 40));
+            Steps.put(x, 5, 0, 1000, "5:39 5:38 4:" + (line % 40));
         }
         x.alone(5, 5, 100);
-        CHECK.same("119 lines at once are more than 100", put(x, 5, 0, 1000, "5:39"), -3);
+        CHECK.same("119 lines at once are more than 100", Steps.put(x, 5, 0, 1000, "5:39"), -3);
         x.alone(5, 5, 0);
-        CHECK.same("the last line", put(x, 5, 0, 1000, "5:39 5:38 5:37 4:1 4:2 4:39"), 119);
+        CHECK.same("the last line", Steps.put(x, 5, 0, 1000, "5:39 5:38 5:37 4:1 4:2 4:39"), 119);
         String atom = "k5(r5a,r5b,r4c,r5t39)";
         CHECK.same("six atoms", Texts.ask(x, (atom + ",").repeat(5) + atom), 6);
         CHECK.same("38 and 39 twice with all, 37 with three", x.answers(1000), 4 * 40 + 5 * 3);
