@@ -160,6 +160,9 @@ public final class AnswerEdgeTest {
         CHECK.same("the fourth has another thing", ask(x, "k0(r0a,r1b,r2c,r5t5)", 0), "");
         CHECK.same("the first has no end", ask(x, "k0(r3a,r1b,r2c,r5t4)", 0), "");
         CHECK.same("ends beside are free", ask(x, "k0(r1b)", 0), "-,2,-");
+        Steps.put(x, 1, 0, 9, "0:1 0:2 1:2 1:3");
+        CHECK.same("one variable in two roles", ask(x, "k1(r0a,r1a)", 0), "2,-,-");
+        CHECK.same("one variable and a thing", ask(x, "k1(r0t1,r1a)", 0), "2,-,- 3,-,-");
     }
 
     private static void oneLineForAllParts() {
@@ -182,7 +185,7 @@ public final class AnswerEdgeTest {
         CHECK.same("one variable twice", ask(x, "k0(r0a,r0a)", 0), "1,-,-");
         CHECK.same("a variable and its thing", ask(x, "k0(r0c,r0t1)", 0), "-,-,1");
         CHECK.same("of two ends", ask(x, "k0(r1a,r1b)", 0), "2,2,- 2,3,- 3,2,- 3,3,-");
-        CHECK.same("one variable in two roles", ask(x, "k0(r0a,r1a)", 0), "");
+        CHECK.same("of two lines", ask(x, "k0(r0a,r1b)", 0), "");
     }
 
     private static void thingOrOneWithIt() {

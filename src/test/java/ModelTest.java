@@ -1,9 +1,11 @@
 import java.util.Random;
 
-/** Runs of up to 512 calls, always the same ones, on a LineStore and on the Model: all answers must be alike. */
+/** Runs of at most 512 calls, always the same ones, on a LineStore and on the Model: all answers must be alike. */
 public final class ModelTest {
     private static final int RUNS = 300;
     private static final int TEXTS = 6000;
+    /** What an object answers after these is free. A step takes fewer than 40. */
+    private static final int MOST_CALLS = 512;
     private static final int[] WIDTHS = {3, 6, 12, 40};
     private static final Checker CHECK = new Checker();
 
@@ -32,7 +34,9 @@ public final class ModelTest {
             new ModelTest(seed).run(seed % 4);
         }
         CHECK.topic("texts");
-        new ModelTest(-1).texts();
+        for (int asked = 0; asked < TEXTS && CHECK.wrong() == 0;) {
+            asked += new ModelTest(-1 - asked).texts();
+        }
         CHECK.finish();
     }
 
@@ -48,7 +52,7 @@ public final class ModelTest {
         for (int i = 0; style == 3 && i < 12; i++) {
             law();
         }
-        for (int i = 0; i < 2000 && calls < 500 && CHECK.wrong() == 0; i++) {
+        for (int i = 0; i < 2000 && calls < MOST_CALLS - 40 && CHECK.wrong() == 0; i++) {
             step(random.nextInt(100), style);
         }
     }
@@ -84,12 +88,12 @@ public final class ModelTest {
         int to = across ? focus + random.nextInt(days - focus) : day();
         for (int i = 0; i < ends; i++) {
             int role = random.nextInt(60) == 0 ? random.nextInt(9) - 2 : random.nextInt(3);
-            boolean line = store.count(0) > 0 && random.nextInt(4) == 0;
+            boolean line = model.count(0) > 0 && random.nextInt(4) == 0;
             int number = line ? line() : thing();
             // A line that hangs on another has days of its own only within the other's.
-            if (line && number >= 0 && number < store.count(0) && random.nextInt(8) != 0) {
-                from = Math.max(from, store.look(number, 1));
-                to = Math.min(to, store.look(number, 2));
+            if (line && number >= 0 && number < model.count(0) && random.nextInt(8) != 0) {
+                from = Math.max(from, model.look(number, 1));
+                to = Math.min(to, model.look(number, 2));
             }
             both("draft(" + role + ", " + line + ", " + number + ")",
                     () -> store.draft(role, line, number), () -> model.draft(role, line, number));
@@ -178,6 +182,7 @@ public final class ModelTest {
                     numbers.getInt(at + 16));
         }
         model.end(bytes.length);
+        calls += 2 + numbers.capacity() / 20;
         both("question() of '" + text + "'", () -> store.question(), () -> model.question());
         both("fault() of '" + text + "'", () -> store.fault(), () -> model.fault());
         both("count(4)", () -> store.count(4), () -> model.count(4));
@@ -187,7 +192,7 @@ public final class ModelTest {
     private void seeAnswers() {
         int day = day();
         both("answers(" + day + ")", () -> store.answers(day), () -> model.answers(day));
-        int all = store.answers(day);
+        int all = model.answers(day);
         for (int i = 0; i < 3; i++) {
             int n = random.nextInt(all + 2) - (random.nextInt(10) == 0 ? 1 : 0);
             int variable = random.nextInt(10) == 0 ? random.nextInt(6) - 2 : random.nextInt(3);
@@ -196,10 +201,13 @@ public final class ModelTest {
         }
     }
 
-    private void texts() {
-        for (int i = 0; i < TEXTS && CHECK.wrong() == 0; i++) {
+    /** How many texts were asked. */
+    private int texts() {
+        int asked = 0;
+        for (; calls < MOST_CALLS - 40 && CHECK.wrong() == 0; asked++) {
             ask(random.nextInt(5) == 0 ? text() : spoilt(text()));
         }
+        return asked;
     }
 
     /** A text that is mostly right. */
@@ -214,7 +222,8 @@ public final class ModelTest {
             for (int j = 0; j < parts; j++) {
                 text.append(j == 0 ? "" : blank() + ",").append(blank()).append("r");
                 text.append(random.nextInt(9) == 0 ? "0" : "").append(random.nextInt(3)).append(blank());
-                text.append(random.nextInt(4) == 0 ? "t" + Math.floorMod(thing(), 42) : "" + "abc".charAt(random.nextInt(3)));
+                text.append(random.nextInt(4) == 0 ? "t" + Math.floorMod(thing(), 42)
+                        : "" + "abc".charAt(random.nextInt(3)));
                 text.append(blank());
             }
             text.append(")").append(blank());
@@ -247,7 +256,7 @@ public final class ModelTest {
     }
 
     private int line() {
-        int all = store.count(0);
+        int all = model.count(0);
         return all == 0 || random.nextInt(40) == 0 ? random.nextInt(130) - 3 : random.nextInt(all);
     }
 

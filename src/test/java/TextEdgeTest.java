@@ -26,9 +26,11 @@ public final class TextEdgeTest {
         blanksBetweenAll();
         blanksAloneAreBlanks();
         beginOfTheFirst();
+        eachThingAtEachPlace();
         numberOfMoreDigits();
         numberOutOfBounds();
         wordThatIsNone();
+        wordBehindAnotherText();
         variableBehindNot();
         variableAheadOfIt();
         commaAheadOfSeventh();
@@ -128,7 +130,8 @@ public final class TextEdgeTest {
     private static void oneAtomOrMore() {
         CHECK.topic("promises 15, 16: A QUESTION: a text: ATOM { , ATOM }");
         faults(0, "", -1, "k0(r0a)", -1, "k0(r0a),k0(r0a)", 0, ",k0(r0a)", 8, "k0(r0a),", 8, "k0(r0a),,k0(r0a)",
-                7, "k0(r0a)k0(r0a)", 7, "k0(r0a)not k0(r0a)", 7, "k0(r0a))", 7, "k0(r0a);k0(r0a)");
+                7, "k0(r0a)k0(r0a)", 7, "k0(r0a)not k0(r0a)", 7, "k0(r0a))", 7, "k0(r0a);k0(r0a)",
+                7, "k0(r0a)0", 7, "k0(r0a)a", 7, "k0(r0a)xx");
     }
 
     private static void notOnce() {
@@ -209,7 +212,10 @@ public final class TextEdgeTest {
 
     private static void blanksAloneAreBlanks() {
         CHECK.topic("promises 15, 16: blanks (32), and no other byte");
-        for (int sign : new int[] {0, 9, 10, 11, 12, 13, 31, 33, 127, 128, 160, 255}) {
+        for (int sign = 0; sign < 256; sign++) {
+            if ("abcdefghijklmnopqrstuvwxyz0123456789(), ".indexOf(sign) >= 0) {
+                continue;
+            }
             String text = String.valueOf((char) sign);
             faults(0, text + "k0(r0a)", 1, "k" + text + "0(r0a)", 2, "k0" + text + "(r0a)", 3, "k0(" + text + "r0a)",
                     4, "k0(r" + text + "0a)", 5, "k0(r0" + text + "a)", 6, "k0(r0a" + text + ")",
@@ -221,6 +227,28 @@ public final class TextEdgeTest {
         CHECK.topic("promise 16: The first wrong byte: the begin of the first thing that cannot stand there");
         faults(2, "  xyz", 3, "k  77", 7, "k0(r0  abc)", 9, "k0(r0a)  x", 1, "k9(r9d)", 4, "k0(r9d)", 5, "k0(r0d),k9",
                 9, "k0(r0a),k9(r9", 9, "k0(r0a), !k9");
+    }
+
+    private static void eachThingAtEachPlace() {
+        CHECK.topic("promise 16: the first thing that cannot stand there, of all things at all places");
+        String[] all = {"not", "k", "r", "t", "a", "b", "c", "d", "xyz", "K", "0", "5", "6", "39", "40", "000",
+            "(", ")", ",", ".", "-", "\0", "\u00ff"};
+        String[][] placesAndFits = {
+            {"", "not k"}, {"not", "k"}, {"k", "0 5"}, {"not k", "0 5"}, {"k0", "("}, {"not k5", "("}, {"k0(", "r"},
+            {"k0(r", "0 5"}, {"k0(r0", "a b c t"}, {"not k0(r0", "t"}, {"k0(r0t", "0 5 6 39"}, {"k0(r0a", ", )"},
+            {"k0(r0t39", ", )"}, {"k0(r0a,", "r"}, {"k0(r0a,r5", "a b c t"}, {"k0(r0a)", ","}, {"k0(r0a),", "not k"},
+            {"k0(r0a),not", "k"}, {"k0(r0a),not k0(r0", "a t"}, {"k0(r0c),not k0(r0", "c t"},
+            {FOUR_PARTS, ")"}, {SIX_ATOMS, ""}, {"k0(r0b),not k0(r0b)", ","}};
+        for (String[] placeAndFits : placesAndFits) {
+            LineStore x = new LineStore();
+            for (String thing : all) {
+                String text = placeAndFits[0] + " " + thing;
+                boolean fits = (" " + placeAndFits[1] + " ").contains(" " + thing + " ");
+                // What fits needs more behind it, but for the ) that closes an ATOM.
+                int due = !fits ? placeAndFits[0].length() + 1 : thing.equals(")") ? -1 : text.length();
+                CHECK.same("fault of '" + text + "'", Texts.fault(x, text), due);
+            }
+        }
     }
 
     private static void numberOfMoreDigits() {
@@ -240,6 +268,11 @@ public final class TextEdgeTest {
         CHECK.topic("promise 16: the first wrong byte: a word that is none");
         faults(0, "n", 0, "no", 0, "nott", 0, "nt k0", 0, "knot", 0, "no k0", 0, "and", 0, "x0", 3, "k0(s0a)",
                 5, "k0(r0x)", 5, "k0(r0no)", 5, "k0(r0cc)", 8, "k0(r0a),nor k0(r0a)", 2, "k0and", 7, "k0(r0a)and");
+    }
+
+    private static void wordBehindAnotherText() {
+        CHECK.topic("promise 16: a word that is none, whatever text stood before");
+        faults(3, "k0(k", 0, "xx0(r0a)", 4, "not not k0", 0, "xxx k0(r0t0)", -1, "k0(r0a)", 0, "xx");
     }
 
     private static void variableBehindNot() {
