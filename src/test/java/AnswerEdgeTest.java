@@ -8,34 +8,17 @@ public final class AnswerEdgeTest {
     }
 
     public static void main(String[] args) {
-        allWays();
-        leastNumberAlone();
-        trueWithoutNot();
-        notTrueWithNot();
-        ofItsKind();
-        inForceOnThatDay();
-        forEachPart();
-        oneLineForAllParts();
-        oneEndForTwoParts();
-        thingOrOneWithIt();
-        lineIsNoThing();
-        byAThenBThenC();
-        thoseThatThereAre();
-        withoutVariables();
-        aheadOfAnyQuestion();
-        answersFromNoneOn();
-        answersOfNoneSuch();
-        byWhatIsThereNow();
-        leastNumberOfLines();
-        linesInForceThen();
-        kindsAsBits();
-        thingInCommon();
-        inWhateverRoles();
-        whatIsOneIsOne();
-        noneIfTheyAreOne();
-        withoutAWay();
-        howManyLines();
-        thingInARole();
+        CHECK.runAll(AnswerEdgeTest::allWays, AnswerEdgeTest::leastNumberAlone, AnswerEdgeTest::trueWithoutNot,
+                AnswerEdgeTest::notTrueWithNot, AnswerEdgeTest::ofItsKind, AnswerEdgeTest::inForceOnThatDay,
+                AnswerEdgeTest::forEachPart, AnswerEdgeTest::oneLineForAllParts, AnswerEdgeTest::oneEndForTwoParts,
+                AnswerEdgeTest::thingOrOneWithIt, AnswerEdgeTest::lineIsNoThing, AnswerEdgeTest::byAThenBThenC,
+                AnswerEdgeTest::thoseThatThereAre, AnswerEdgeTest::withoutVariables,
+                AnswerEdgeTest::aheadOfAnyQuestion, AnswerEdgeTest::answersFromNoneOn,
+                AnswerEdgeTest::answersOfNoneSuch, AnswerEdgeTest::byWhatIsThereNow,
+                AnswerEdgeTest::leastNumberOfLines, AnswerEdgeTest::linesInForceThen, AnswerEdgeTest::kindsAsBits,
+                AnswerEdgeTest::thingInCommon, AnswerEdgeTest::inWhateverRoles, AnswerEdgeTest::whatIsOneIsOne,
+                AnswerEdgeTest::noneIfTheyAreOne, AnswerEdgeTest::withoutAWay, AnswerEdgeTest::howManyLines,
+                AnswerEdgeTest::thingInARole);
         CHECK.finish();
     }
 

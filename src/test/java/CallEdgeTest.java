@@ -19,43 +19,19 @@ public final class CallEdgeTest {
     }
 
     public static void main(String[] args) {
-        toldFirst();
-        toldFirstOfPut();
-        throwingChangesNothing();
-        throwingPutChangesNothing();
-        throwingQuestionChangesTheTapeAlone();
-        noLines();
-        noLaws();
-        noOnes();
-        nothingElseAtFirst();
-        objectsShareNothing();
-        leastToMost();
-        noneToHundred();
-        wasOtherwise();
-        howManyTheDraftHas();
-        fullDraft();
-        draftOfWhat();
-        becomesALine();
-        lessWhyRefused();
-        daysAreNone();
-        draftWithoutEnds();
-        thereAre120();
-        howManyAreStruck();
-        heldOrNotOfItsSpan();
-        withAllThatAreOne();
-        wereNotOne();
-        partedAgain();
-        asWhichItCounts();
-        lookAtALine();
-        lastDayOfNever();
-        howManyHang();
-        anotherWhatOfLook();
-        asDrafted();
-        asItWasTold();
-        noneSuchOfEnded();
-        counts();
-        countOfOnes();
-        countOfAnotherWhat();
+        CHECK.runAll(CallEdgeTest::toldFirst, CallEdgeTest::toldFirstOfPut, CallEdgeTest::throwingChangesNothing,
+                CallEdgeTest::throwingPutChangesNothing, CallEdgeTest::throwingQuestionChangesTheTapeAlone,
+                CallEdgeTest::noLines, CallEdgeTest::noLaws, CallEdgeTest::noOnes, CallEdgeTest::nothingElseAtFirst,
+                CallEdgeTest::objectsShareNothing, CallEdgeTest::leastToMost, CallEdgeTest::noneToHundred,
+                CallEdgeTest::wasOtherwise, CallEdgeTest::howManyTheDraftHas, CallEdgeTest::fullDraft,
+                CallEdgeTest::draftOfWhat, CallEdgeTest::becomesALine, CallEdgeTest::lessWhyRefused,
+                CallEdgeTest::daysAreNone, CallEdgeTest::draftWithoutEnds, CallEdgeTest::thereAre120,
+                CallEdgeTest::howManyAreStruck, CallEdgeTest::heldOrNotOfItsSpan, CallEdgeTest::withAllThatAreOne,
+                CallEdgeTest::wereNotOne, CallEdgeTest::partedAgain, CallEdgeTest::asWhichItCounts,
+                CallEdgeTest::lookAtALine, CallEdgeTest::lastDayOfNever, CallEdgeTest::howManyHang,
+                CallEdgeTest::anotherWhatOfLook, CallEdgeTest::asDrafted, CallEdgeTest::asItWasTold,
+                CallEdgeTest::noneSuchOfEnded, CallEdgeTest::counts, CallEdgeTest::countOfOnes,
+                CallEdgeTest::countOfAnotherWhat);
         CHECK.finish();
     }
 

@@ -9,6 +9,17 @@ final class Checker {
         Object run();
     }
 
+    /** Runs all tests, one that throws too: it fails, and the others are run all the same. */
+    void runAll(Runnable... tests) {
+        for (Runnable test : tests) {
+            try {
+                test.run();
+            } catch (RuntimeException e) {
+                same("a call behind the last that was checked", "throws " + e, "nothing thrown");
+            }
+        }
+    }
+
     void topic(String name) {
         topic = name;
     }

@@ -14,37 +14,14 @@ public final class PromiseTest {
     }
 
     public static void main(String[] args) {
-        newObject();
-        feed();
-        end();
-        ends();
-        alone();
-        aloneByDaysAndOnes();
-        holds();
-        draft();
-        put();
-        refusalsInOrder();
-        linesOnLines();
-        strike();
-        strikeLater();
-        strikeAllOrNothing();
-        one();
-        part();
-        as();
-        look();
-        ended();
-        question();
-        faults();
-        faultsOfLimits();
-        faultsOfVariables();
-        answers();
-        answersOfNot();
-        answersOfOnes();
-        answer();
-        ways();
-        degree();
-        count();
-        allThatFits();
+        CHECK.runAll(PromiseTest::newObject, PromiseTest::feed, PromiseTest::end, PromiseTest::ends,
+                PromiseTest::alone, PromiseTest::aloneByDaysAndOnes, PromiseTest::holds, PromiseTest::draft,
+                PromiseTest::put, PromiseTest::refusalsInOrder, PromiseTest::linesOnLines, PromiseTest::strike,
+                PromiseTest::strikeLater, PromiseTest::strikeAllOrNothing, PromiseTest::one, PromiseTest::part,
+                PromiseTest::as, PromiseTest::look, PromiseTest::ended, PromiseTest::question, PromiseTest::faults,
+                PromiseTest::faultsOfLimits, PromiseTest::faultsOfVariables, PromiseTest::answers,
+                PromiseTest::answersOfNot, PromiseTest::answersOfOnes, PromiseTest::answer, PromiseTest::ways,
+                PromiseTest::degree, PromiseTest::count, PromiseTest::allThatFits);
         CHECK.finish();
     }
 

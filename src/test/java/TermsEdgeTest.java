@@ -11,42 +11,19 @@ public final class TermsEdgeTest {
     }
 
     public static void main(String[] args) {
-        calls();
-        things();
-        roles();
-        kinds();
-        days();
-        leastNumber();
-        lastIsPartedFirst();
-        numbersOfLines();
-        spanWithBothDays();
-        oneToSixEnds();
-        lineOfLesserNumber();
-        inForceOnItsDays();
-        lawOfEndsAtFirst();
-        lawOfEndsNoneAndSix();
-        lawOfLinesAtOnce();
-        lawOfHoldingAtFirst();
-        lawOfEndsFromThenOn();
-        lawOfLinesAtOnceFromThenOn();
-        fewerOrMoreEnds();
-        noneOfARoleThatMustBe();
-        endNotInForce();
-        tooManyOnSomeDay();
-        tooManyInThatRoleAlone();
-        itselfToo();
-        onceALine();
-        byWhatIsOneNow();
-        firstRefusalCounts();
-        upToTheDayBefore();
-        neverInForce();
-        heldOnThatDayOrLater();
-        struckOnThatDay();
-        struckOnItsOwnFirstDay();
-        overBeforeThatDay();
-        byItsOwnKind();
-        nothingAtAll();
-        keepsItsNumber();
+        CHECK.runAll(TermsEdgeTest::calls, TermsEdgeTest::things, TermsEdgeTest::roles, TermsEdgeTest::kinds,
+                TermsEdgeTest::days, TermsEdgeTest::leastNumber, TermsEdgeTest::lastIsPartedFirst,
+                TermsEdgeTest::numbersOfLines, TermsEdgeTest::spanWithBothDays, TermsEdgeTest::oneToSixEnds,
+                TermsEdgeTest::lineOfLesserNumber, TermsEdgeTest::inForceOnItsDays, TermsEdgeTest::lawOfEndsAtFirst,
+                TermsEdgeTest::lawOfEndsNoneAndSix, TermsEdgeTest::lawOfLinesAtOnce,
+                TermsEdgeTest::lawOfHoldingAtFirst, TermsEdgeTest::lawOfEndsFromThenOn,
+                TermsEdgeTest::lawOfLinesAtOnceFromThenOn, TermsEdgeTest::fewerOrMoreEnds,
+                TermsEdgeTest::noneOfARoleThatMustBe, TermsEdgeTest::endNotInForce, TermsEdgeTest::tooManyOnSomeDay,
+                TermsEdgeTest::tooManyInThatRoleAlone, TermsEdgeTest::itselfToo, TermsEdgeTest::onceALine,
+                TermsEdgeTest::byWhatIsOneNow, TermsEdgeTest::firstRefusalCounts, TermsEdgeTest::upToTheDayBefore,
+                TermsEdgeTest::neverInForce, TermsEdgeTest::heldOnThatDayOrLater, TermsEdgeTest::struckOnThatDay,
+                TermsEdgeTest::struckOnItsOwnFirstDay, TermsEdgeTest::overBeforeThatDay, TermsEdgeTest::byItsOwnKind,
+                TermsEdgeTest::nothingAtAll, TermsEdgeTest::keepsItsNumber);
         CHECK.finish();
     }
 
@@ -504,6 +481,12 @@ public final class TermsEdgeTest {
         Steps.draft(x, "0:3");
         x.part();
         CHECK.same("parted behind the draft", x.put(0, 9, 9), 3);
+        Steps.put(x, 0, 0, 9, "0:30");
+        x.one(20, 30);
+        CHECK.same("the lesser one, where the other line has the greater", Steps.put(x, 0, 0, 9, "0:20"), -3);
+        CHECK.same("the greater one itself", Steps.put(x, 0, 0, 9, "0:30"), -3);
+        x.one(20, 10);
+        CHECK.same("a lesser one yet", Steps.put(x, 0, 0, 9, "0:10"), -3);
     }
 
     private static void firstRefusalCounts() {

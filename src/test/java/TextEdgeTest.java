@@ -9,39 +9,17 @@ public final class TextEdgeTest {
     }
 
     public static void main(String[] args) {
-        highestFirst();
-        behindTheTape();
-        moreThan400();
-        firstBytesAlone();
-        fewerOrBelowNone();
-        oneAtomOrMore();
-        notOnce();
-        onePartOrMore();
-        terms();
-        sixAtoms();
-        fourParts();
-        oneOrTwoDigits();
-        numbersOfTheirOwnBounds();
-        wordsAsLongAsLetters();
-        blanksBetweenAll();
-        blanksAloneAreBlanks();
-        beginOfTheFirst();
-        eachThingAtEachPlace();
-        numberOfMoreDigits();
-        numberOutOfBounds();
-        wordThatIsNone();
-        wordBehindAnotherText();
-        variableBehindNot();
-        variableAheadOfIt();
-        commaAheadOfSeventh();
-        commaAheadOfFifth();
-        textsLength();
-        usesTheTapeUp();
-        standsUntilTheNext();
-        howManyAtoms();
-        oneBeforeStands();
-        faultOfTheLatest();
-        faultAheadOfAny();
+        CHECK.runAll(TextEdgeTest::highestFirst, TextEdgeTest::behindTheTape, TextEdgeTest::moreThan400,
+                TextEdgeTest::firstBytesAlone, TextEdgeTest::fewerOrBelowNone, TextEdgeTest::oneAtomOrMore,
+                TextEdgeTest::notOnce, TextEdgeTest::onePartOrMore, TextEdgeTest::terms, TextEdgeTest::sixAtoms,
+                TextEdgeTest::fourParts, TextEdgeTest::oneOrTwoDigits, TextEdgeTest::numbersOfTheirOwnBounds,
+                TextEdgeTest::wordsAsLongAsLetters, TextEdgeTest::blanksBetweenAll,
+                TextEdgeTest::blanksAloneAreBlanks, TextEdgeTest::beginOfTheFirst, TextEdgeTest::eachThingAtEachPlace,
+                TextEdgeTest::numberOfMoreDigits, TextEdgeTest::numberOutOfBounds, TextEdgeTest::wordThatIsNone,
+                TextEdgeTest::wordBehindAnotherText, TextEdgeTest::variableBehindNot, TextEdgeTest::variableAheadOfIt,
+                TextEdgeTest::commaAheadOfSeventh, TextEdgeTest::commaAheadOfFifth, TextEdgeTest::textsLength,
+                TextEdgeTest::usesTheTapeUp, TextEdgeTest::standsUntilTheNext, TextEdgeTest::howManyAtoms,
+                TextEdgeTest::oneBeforeStands, TextEdgeTest::faultOfTheLatest, TextEdgeTest::faultAheadOfAny);
         CHECK.finish();
     }
 
