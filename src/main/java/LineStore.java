@@ -20,6 +20,8 @@ public final class LineStore {
     private static final int MOST_ATOMS = 6;
     private static final int MOST_PARTS = 4;
     private static final int VARIABLES = 3;
+    /** No QUESTION has more: each VARIABLE may be each THING. */
+    private static final int MOST_ANSWERS = THINGS * THINGS * THINGS;
     /** The set of all THINGS: a set of THINGS is a long with a bit for each. */
     private static final long ALL = (1L << THINGS) - 1;
 
@@ -798,6 +800,8 @@ public final class LineStore {
         private static final int NUMBER = -2;
         private static final int NOT = -3;
         private static final int NO_WORD = -4;
+        /** The value of a NUMBER of more than two digits: out of all bounds. */
+        private static final int TOO_GREAT = 100;
 
         private int at;
         private int begin;
@@ -903,12 +907,11 @@ public final class LineStore {
             }
         }
 
-        /** A NUMBER of more than two digits gets a value that is out of all bounds. */
         private void takeNumber(Tape text) {
             token = NUMBER;
             value = 0;
             while (at < text.length() && isDigit(text.at(at))) {
-                value = at - begin < 2 ? value * 10 + text.at(at) - '0' : Integer.MAX_VALUE;
+                value = at - begin < 2 ? value * 10 + text.at(at) - '0' : TOO_GREAT;
                 at++;
             }
         }
@@ -957,7 +960,7 @@ public final class LineStore {
         }
 
         int howMany() {
-            find(Integer.MAX_VALUE);
+            find(MOST_ANSWERS);
             return passed;
         }
 

@@ -46,6 +46,11 @@ public final class FaceTest {
         "\\bThread\\b", "\\bString\\.format\\b", "\\bpackage\\b", "\\bvar\\b", "\\bhashCode\\b", "\\btoString\\b",
         "\\bprotected\\b", "static\\s*\\{", "\\[\\]\\s*\\[\\]\\s*\\[\\]"};
 
+    /** Rule 4: what the text takes from the library, constants too. */
+    private static final Set<String> TAKEN = Set.of("Math.min", "Math.max", "Integer.bitCount", "Long.bitCount",
+        "System.arraycopy", "list.add", "list.get", "list.size");
+    private static final Pattern USE = Pattern.compile("\\b(?:[A-Z]\\w*|list)\\.\\w+");
+
     /** A head with parameters, and all up to the brace below its begin. */
     private static final Pattern METHOD =
             Pattern.compile("(?ms)^( {4}| {8})([a-zA-Z][^;={}]*\\([^;={}]*)\\{\n(.*?)^\\1\\}$");
@@ -137,6 +142,10 @@ public final class FaceTest {
         Set<String> imports = code.lines().filter(l -> l.startsWith("import ")).collect(Collectors.toSet());
         CHECK.same("imports", imports, Set.of("import java.util.ArrayList;", "import java.util.NoSuchElementException;"));
         CHECK.same("a sign above 127", text.chars().anyMatch(c -> c > 127), false);
+        Matcher uses = USE.matcher(code);
+        while (uses.find()) {
+            CHECK.same(uses.group() + " is of rule 4", TAKEN.contains(uses.group()), true);
+        }
         Matcher methods = METHOD.matcher(code);
         while (methods.find()) {
             CHECK.same("longer than sixty lines: " + methods.group(2), methods.group(3).lines().count() > 60, false);
